@@ -962,6 +962,7 @@ public final class FreshDisks {
         private static final int AT_LOST_SIGN = 9;
         private static final int AT_LOST = 10;
         private static final int AT_END = 11;
+        private static final int DIGITS = 10;
 
         int letter;
         int node;
@@ -982,19 +983,34 @@ public final class FreshDisks {
         /** Takes a character if it is allowed at its place; answers whether it is. */
         boolean take(int code, int nodeCount, int slotCount) {
             switch (place) {
-                case AT_LETTER: return takeLetter(code);
-                case AT_NODE: return takeNode(digit(code, nodeCount));
-                case AT_SLOT_SIGN: return takeSign(code, 's', AT_SLOT);
-                case AT_SLOT: return takeSlot(digit(code, slotCount));
-                case AT_VALUE_SIGN: return takeSign(code, '=', AT_VALUE);
-                case AT_VALUE: return takeValue(digit(code, 10));
-                case AT_REACHED_SIGN: return takeSign(code, '>', AT_FIRST_REACHED);
-                case AT_FIRST_REACHED: return takeReached(digit(code, nodeCount));
+                case AT_LETTER:
+                    return takeLetter(code);
+                case AT_NODE:
+                    node = digit(code, nodeCount);
+                    return goOn(node != NONE, placeBehindNode());
+                case AT_SLOT_SIGN:
+                    return goOn(code == 's', AT_SLOT);
+                case AT_SLOT:
+                    slot = digit(code, slotCount);
+                    return goOn(slot != NONE, AT_VALUE_SIGN);
+                case AT_VALUE_SIGN:
+                    return goOn(code == '=', AT_VALUE);
+                case AT_VALUE:
+                    value = digit(code, DIGITS);
+                    return goOn(value != NONE, AT_REACHED_SIGN);
+                case AT_REACHED_SIGN:
+                    return goOn(code == '>', AT_FIRST_REACHED);
+                case AT_FIRST_REACHED:
+                    return takeReached(digit(code, nodeCount));
                 case AT_NEXT_REACHED:
-                    return takeSign(code, ';', AT_LETTER) || takeReached(digit(code, nodeCount));
-                case AT_LOST_SIGN: return takeSign(code, '-', AT_LOST);
-                case AT_LOST: return takeLost(digit(code, 10));
-                default: return takeSign(code, ';', AT_LETTER);
+                    return goOn(code == ';', AT_LETTER) || takeReached(digit(code, nodeCount));
+                case AT_LOST_SIGN:
+                    return goOn(code == '-', AT_LOST);
+                case AT_LOST:
+                    lost = digit(code, DIGITS);
+                    return goOn(lost != NONE, AT_END);
+                default:
+                    return goOn(code == ';', AT_LETTER);
             }
         }
 
@@ -1003,15 +1019,20 @@ public final class FreshDisks {
             return number >= 0 && number < bound ? number : NONE;
         }
 
-        private boolean takeSign(int code, int sign, int next) {
-            if (code != sign) {
-                return false;
+        private boolean goOn(boolean allowed, int next) {
+            if (allowed) {
+                place = next;
             }
-            place = next;
-            return true;
+            return allowed;
         }
 
         private boolean takeLetter(int code) {
+            letter = code;
+            reached = 0;
+            return goOn(isLetter(code), AT_NODE);
+        }
+
+        private static boolean isLetter(int code) {
             switch (code) {
                 case 'p':
                 case 'a':
@@ -1019,23 +1040,9 @@ public final class FreshDisks {
                 case 'c':
                 case 'w':
                 case 'r':
-                case 'j':
-                    letter = code;
-                    reached = 0;
-                    place = AT_NODE;
-                    return true;
-                default:
-                    return false;
+                case 'j': return true;
+                default: return false;
             }
-        }
-
-        private boolean takeNode(int number) {
-            if (number == NONE) {
-                return false;
-            }
-            node = number;
-            place = placeBehindNode();
-            return true;
         }
 
         private int placeBehindNode() {
@@ -1048,24 +1055,6 @@ public final class FreshDisks {
             }
         }
 
-        private boolean takeSlot(int number) {
-            if (number == NONE) {
-                return false;
-            }
-            slot = number;
-            place = AT_VALUE_SIGN;
-            return true;
-        }
-
-        private boolean takeValue(int number) {
-            if (number == NONE) {
-                return false;
-            }
-            value = number;
-            place = AT_REACHED_SIGN;
-            return true;
-        }
-
         // A set whose numbers are all less than this one has no bit at its place or above.
         private boolean takeReached(int number) {
             if (number == NONE || reached >> number != 0) {
@@ -1073,15 +1062,6 @@ public final class FreshDisks {
             }
             reached |= 1 << number;
             place = AT_NEXT_REACHED;
-            return true;
-        }
-
-        private boolean takeLost(int number) {
-            if (number == NONE) {
-                return false;
-            }
-            lost = number;
-            place = AT_END;
             return true;
         }
     }

@@ -7,6 +7,7 @@ public final class PromiseTest {
     public static void main(String[] args) {
         newObject();
         begin();
+        beginForgetsAll();
         setBarriers();
         prepare();
         prepareTellsBallots();
@@ -108,6 +109,25 @@ public final class PromiseTest {
         for (int[] w : wrong) {
             CHECKS.argument("2: begin " + w[0] + " " + w[1], x, () -> x.begin(w[0], w[1]));
         }
+    }
+
+    private static void beginForgetsAll() {
+        FreshDisks x = inConflict(1);
+        x.prepare(0, 7);
+        x.accept(0, 0, 8, 7);
+        for (int i = 0; i < 3; i++) {
+            x.crash(i, 0);
+            x.restart(i);
+        }
+        due("2: decided on disks", x.slot(0, 4), 3);
+        due("2: begin the same again", x.begin(3, 2), 3);
+        due("2: nothing is left of it", x.digest(), made(3, 2, false).digest());
+        due("2: epoch", x.node(0, 2), 0);
+        due("2: disk", x.node(0, 4), 0);
+        due("2: conflict", x.slot(1, 6), 0);
+        due("2: decision", x.slot(0, 1), -1);
+        x.prepare(0, 7);
+        due("2: nor for a round", x.roundValue(0, 0), -1);
     }
 
     private static void setBarriers() {
@@ -270,26 +290,28 @@ public final class PromiseTest {
         CHECKS.state("5: ended", x, () -> x.accept(0, 0, 6, 31));
     }
 
-    private static FreshDisks inConflict() {
+    private static FreshDisks inConflict(int slot) {
         FreshDisks x = made(3, 2, false);
         x.prepare(0, 7);
-        x.accept(0, 1, 4, 3);
+        x.accept(0, slot, 4, 3);
         x.crash(0, 9);
         x.crash(1, 9);
         x.restart(0);
         x.restart(1);
         x.prepare(1, 3);
-        due("5: later decision", x.accept(1, 1, 5, 7), 3);
+        due("5: later decision", x.accept(1, slot, 5, 7), 3);
         return x;
     }
 
     private static void acceptConflict() {
-        FreshDisks x = inConflict();
+        FreshDisks x = inConflict(1);
         due("5: the first decision stays", x.slot(1, 1), 4);
         due("5: its ballot too", x.slot(1, 0), 8);
         due("5: two decisions", x.slot(1, 2), 2);
         due("5: conflict", x.slot(1, 6), 1);
         due("5: one slot in conflict", x.count(7), 1);
+        due("5: slot 0 in conflict", inConflict(0).slot(0, 6), 1);
+        due("5: which is one", inConflict(0).count(7), 1);
         FreshDisks y = made(3, 1, true);
         y.prepare(0, 7);
         y.accept(0, 0, 4, 7);
@@ -440,6 +462,18 @@ public final class PromiseTest {
         x.restart(4);
         x.crash(1, 0);
         due("10: not from those that are down", x.rejoin(4, 14), 2);
+        // What a round found before must not show in what is read now.
+        FreshDisks y = made(5, 1, false);
+        y.prepare(0, 31);
+        y.accept(0, 0, 6, 1);
+        y.crash(4, 0);
+        y.wipe(4);
+        y.restart(4);
+        y.prepare(0, 15);
+        due("10: found by the round", y.roundValue(0, 0), 6);
+        due("10: read from the others", y.rejoin(4, 14), 3);
+        due("10: which have no value", y.accepted(4, 0, 1), -1);
+        due("10: nor a ballot", y.accepted(4, 0, 0), 0);
     }
 
     private static void append() {
@@ -506,6 +540,8 @@ public final class PromiseTest {
         error(x, "w0-", 2);
         error(x, "c0>", 2);
         error(x, "c0-;", 3);
+        error(x, "c0-:", 3);
+        error(x, "c0-/", 3);
         error(x, "c0-10", 4);
         error(x, "f0;;", 3);
         error(x, "f0;p1>2;q", 8);
@@ -593,7 +629,7 @@ public final class PromiseTest {
         due("15: q of 6", x.count(2), 4);
         x.setBarriers(true);
         due("15: barriers on", x.count(3), 1);
-        due("15: conflict", inConflict().count(7), 1);
+        due("15: conflict", inConflict(1).count(7), 1);
         CHECKS.argument("15: 12", x, () -> x.count(12));
         CHECKS.argument("15: -1", x, () -> x.count(-1));
         CHECKS.argument("15: most", x, () -> x.count(MOST));
@@ -693,7 +729,7 @@ public final class PromiseTest {
         due("19: not protected", x.slot(1, 5), 0);
         x.crash(2, 0);
         due("19: down nodes count", x.slot(1, 4), 2);
-        due("19: conflict", inConflict().slot(1, 6), 1);
+        due("19: conflict", inConflict(1).slot(1, 6), 1);
         CHECKS.argument("19: 7", x, () -> x.slot(0, 7));
         CHECKS.argument("19: -1", x, () -> x.slot(0, -1));
         CHECKS.index("19: slot 2", x, () -> x.slot(2, 7));
@@ -722,7 +758,7 @@ public final class PromiseTest {
         x.prepare(2, 31);
         x.accept(2, 0, 4, 16);
         due("19: a newer ballot does", x.slot(0, 3), 4);
-        due("19: another value does not", inConflict().slot(1, 3), 0);
+        due("19: another value does not", inConflict(1).slot(1, 3), 0);
     }
 
     private static void roundValue() {
@@ -837,6 +873,11 @@ public final class PromiseTest {
         x.crash(2, 0);
         x.wipe(2);
         due("23: not protected", x.leastLosses(0), 0);
+        FreshDisks y = made(3, 1, false);
+        y.prepare(0, 7);
+        y.accept(0, 0, 1, 3);
+        y.barrier(1);
+        due("23: node 0 alone", y.leastLosses(0), 1);
         CHECKS.state("23: not decided", x, () -> x.leastLosses(1));
         CHECKS.index("23: slot 2", x, () -> x.leastLosses(2));
         CHECKS.index("23: slot -1", x, () -> x.leastLosses(-1));
@@ -892,6 +933,14 @@ public final class PromiseTest {
         due("26: later", x.digest(), digestByCalls(x, "p0>"));
         x.crash(2, 1);
         due("26: after a crash", x.digest(), digestByCalls(x, "p0>"));
+        x.begin(7, 3);
+        x.prepare(0, 127);
+        x.accept(0, 0, 1, 127);
+        x.accept(0, 1, 2, 15);
+        for (int i = 0; i < 7; i++) {
+            x.barrier(i);
+            due("26: a part on disks " + i, x.digest(), digestByCalls(x, "p0>"));
+        }
         x.setBarriers(true);
         due("26: with barriers", x.digest(), digestByCalls(x, "p0>"));
         due("26: twice the same", x.digest(), x.digest());
