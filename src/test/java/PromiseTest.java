@@ -878,6 +878,12 @@ public final class PromiseTest {
         y.accept(0, 0, 1, 3);
         y.barrier(1);
         due("23: node 0 alone", y.leastLosses(0), 1);
+        FreshDisks z = made(7, 4, false);
+        z.prepare(6, 127);
+        z.accept(6, 3, 1, 120);
+        due("23: q of seven", z.leastLosses(3), 1);
+        z.accept(6, 3, 1, 7);
+        due("23: all seven", z.leastLosses(3), 4);
         CHECKS.state("23: not decided", x, () -> x.leastLosses(1));
         CHECKS.index("23: slot 2", x, () -> x.leastLosses(2));
         CHECKS.index("23: slot -1", x, () -> x.leastLosses(-1));
