@@ -21,7 +21,8 @@ public final class FreshDisks {
     private static final int ACCEPTED_PARTS = 4;
     private static final int WRITE_PARTS = 3;
     private static final int SLOT_PROPERTIES = 7;
-    // A call adds at most one write to a node, and an object lives for 512 calls.
+    // A write of a node takes a call of its own, or five characters at least that were appended
+    // for it, and an object lives for 512 calls.
     private static final int WAITING_LIMIT = 512;
     private static final int WAITING_AT_FIRST = 8;
 
@@ -35,7 +36,7 @@ public final class FreshDisks {
     private int slotCount;
     private boolean barriersOn;
     private int messages;
-    private int answers;
+    private int notRefused;
     private int lostWrites;
 
     public FreshDisks() {
@@ -154,7 +155,14 @@ public final class FreshDisks {
         if (readInput() < inputLength || !reader.isComplete()) {
             throw new IllegalArgumentException("the buffer is not a complete text");
         }
-        int carriedOut = carryOutEvents();
+        int carriedOut = 0;
+        reader.reset();
+        for (int i = 0; i < inputLength; i++) {
+            reader.take(input[i], nodeCount, slotCount);
+            if (i + 1 == inputLength || input[i + 1] == ';') {
+                carriedOut += asNumber(carryOutEvent());
+            }
+        }
         inputLength = 0;
         return carriedOut;
     }
@@ -170,7 +178,7 @@ public final class FreshDisks {
             case 6: return decidedSlots();
             case 7: return slotsInConflict();
             case 8: return messages;
-            case 9: return answers;
+            case 9: return notRefused;
             case 10: return writesWaiting();
             case 11: return lostWrites;
             default: throw new IllegalArgumentException("what is not 0 to 11");
@@ -359,7 +367,7 @@ public final class FreshDisks {
             decisions[i].reset();
         }
         messages = 0;
-        answers = 0;
+        notRefused = 0;
         lostWrites = 0;
     }
 
@@ -382,7 +390,7 @@ public final class FreshDisks {
         scratch.reset();
         int promises = 0;
         for (int i = 0; i < nodeCount; i++) {
-            if (gets(i, reached) && answersPrepare(nodes[i], sender, ballot)) {
+            if (gets(i, reached) && agrees(nodes[i], sender, NONE, ballot, NONE)) {
                 scratch.takeNewer(nodes[i].view);
                 promises++;
             }
@@ -390,15 +398,6 @@ public final class FreshDisks {
         if (promises >= quorum()) {
             sender.openRound(ballot, scratch.values);
         }
-        return promises;
-    }
-
-    private boolean answersPrepare(Node receiver, Node sender, int ballot) {
-        boolean promises = ballot > receiver.view.promised;
-        if (promises) {
-            receiver.write(NONE, ballot, NONE);
-        }
-        finishAnswer(receiver, sender, promises);
         return promises;
     }
 
@@ -413,7 +412,7 @@ public final class FreshDisks {
         for (int i = 0; i < nodeCount; i++) {
             if (gets(i, reached)) {
                 received++;
-                acceptances += asNumber(answersAccept(nodes[i], sender, slot, ballot, sent));
+                acceptances += asNumber(agrees(nodes[i], sender, slot, ballot, sent));
             }
         }
         if (acceptances >= quorum()) {
@@ -425,25 +424,22 @@ public final class FreshDisks {
         return acceptances;
     }
 
-    private boolean answersAccept(Node receiver, Node sender, int slot, int ballot, int value) {
-        boolean accepts = ballot >= receiver.view.promised;
-        if (accepts) {
-            receiver.write(slot, ballot, value);
-        }
-        finishAnswer(receiver, sender, accepts);
-        return accepts;
-    }
-
-    private void finishAnswer(Node receiver, Node sender, boolean agrees) {
+    /** Lets a node answer a message, that of prepare if the slot is NONE; tells if it does not refuse. */
+    private boolean agrees(Node receiver, Node sender, int slot, int ballot, int value) {
+        int promised = receiver.view.promised;
+        // What was promised can be accepted, but not promised once more.
+        boolean agreed = slot == NONE ? ballot > promised : ballot >= promised;
         messages++;
-        if (agrees) {
-            answers++;
+        if (agreed) {
+            notRefused++;
+            receiver.write(slot, ballot, value);
         } else {
-            sender.tell(receiver.view.promised);
+            sender.tell(promised);
         }
         if (barriersOn) {
             receiver.carryOutAll();
         }
+        return agreed;
     }
 
     // ---- crashes
@@ -484,18 +480,7 @@ public final class FreshDisks {
         return inputLength;
     }
 
-    private int carryOutEvents() {
-        int carriedOut = 0;
-        reader.reset();
-        for (int i = 0; i < inputLength; i++) {
-            reader.take(input[i], nodeCount, slotCount);
-            if (i + 1 == inputLength || input[i + 1] == ';') {
-                carriedOut += asNumber(carryOutEvent());
-            }
-        }
-        return carriedOut;
-    }
-
+    /** Carries out the event that was read, or leaves it out; answers which. */
     private boolean carryOutEvent() {
         Node node = nodes[reader.node];
         if (!isPossible(node)) {
@@ -626,7 +611,8 @@ public final class FreshDisks {
     private int slotsThatNeed(Node node) {
         int needed = 0;
         for (int i = 0; i < slotCount; i++) {
-            if (isProtectedNow(i) && holds(node.view, i) && !areEnough(holders(i) - 1)) {
+            int holding = holders(i);
+            if (holds(node.view, i) && areEnough(holding) && !areEnough(holding - 1)) {
                 needed |= 1 << i;
             }
         }
@@ -662,7 +648,7 @@ public final class FreshDisks {
         if (messages <= 0) {
             return 1.0f;
         }
-        return (float) answers / (float) messages;
+        return (float) notRefused / (float) messages;
     }
 
     private long hashOfNode(long before, int node) {
@@ -670,7 +656,7 @@ public final class FreshDisks {
         for (int what = 0; what < NODE_PROPERTIES; what++) {
             hash = 31L * hash + node(node, what);
         }
-        hash = 31L * hash + harmless(node);
+        hash = 31L * hash + mostHarmlessLosses(nodes[node]);
         for (int i = 0; i < slotCount; i++) {
             for (int what = 0; what < ACCEPTED_PARTS; what++) {
                 hash = 31L * hash + accepted(node, i, what);
@@ -775,11 +761,11 @@ public final class FreshDisks {
         int[] values = new int[WAITING_AT_FIRST];
         int size;
 
-        boolean isFull() {
-            return size >= WAITING_LIMIT;
-        }
-
         void add(int slot, int ballot, int value) {
+            // Only an object older than its 512 calls has so many; its answers are free.
+            if (size >= WAITING_LIMIT) {
+                return;
+            }
             if (size >= slots.length) {
                 grow();
             }
@@ -862,30 +848,24 @@ public final class FreshDisks {
         }
 
         void write(int slot, int ballot, int value) {
-            // Only an object older than its 512 calls gets here; its answers are free.
-            if (writes.isFull()) {
-                carryOutAll();
-            }
             writes.add(slot, ballot, value);
             view.carryOut(slot, ballot, value);
         }
 
+        // The view stays: it is what the disk becomes.
         int carryOutAll() {
             int waited = writes.size;
-            keepOnly(waited);
-            return waited;
-        }
-
-        private void keepOnly(int kept) {
-            writes.carryOutOn(disk, kept);
+            writes.carryOutOn(disk, waited);
             writes.size = 0;
-            view.copyFrom(disk);
+            return waited;
         }
 
         int fall(int lost) {
             int waited = writes.size;
             int kept = writes.keptOf(lost);
-            keepOnly(kept);
+            writes.carryOutOn(disk, kept);
+            writes.size = 0;
+            view.copyFrom(disk);
             up = false;
             roundBallot = NONE;
             seen = 0;
@@ -944,7 +924,7 @@ public final class FreshDisks {
         }
 
         boolean isHeldBy(int acceptedBallot, int acceptedValue) {
-            return isMade() && acceptedValue == value && acceptedBallot >= ballot;
+            return times > 0 && acceptedValue == value && acceptedBallot >= ballot;
         }
     }
 

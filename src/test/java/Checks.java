@@ -4,19 +4,60 @@ final class Checks {
         long run();
     }
 
+    interface Ask {
+        long run(int index);
+    }
+
     private int wrong = 0;
     private int made = 0;
+    private String test = "";
+
+    /** Names the test whose checks follow. */
+    void begin(String name) {
+        test = name + ": ";
+    }
+
+    int made() {
+        return made;
+    }
+
+    int wrong() {
+        return wrong;
+    }
+
+    private void count(String what, boolean right, Object got, Object want) {
+        made++;
+        if (!right) {
+            wrong++;
+            System.out.println(test + what + " answered " + got + ", due is " + want);
+        }
+    }
 
     void due(String what, long got, long want) {
-        made++;
-        if (got != want) {
-            wrong++;
-            System.out.println(what + " answered " + got + ", due is " + want);
-        }
+        count(what, got == want, got, want);
     }
 
     void due(String what, double got, double want) {
         due(what, Double.doubleToLongBits(got), Double.doubleToLongBits(want));
+    }
+
+    /** Asks for several numbers at once: the call gets each index of what is due. */
+    void row(String what, Ask ask, int... want) {
+        for (int i = 0; i < want.length; i++) {
+            due(what + " " + i, ask.run(i), want[i]);
+        }
+    }
+
+    /** The two answer the same to all that can be asked. */
+    void same(String what, FreshDisks got, FreshDisks want) {
+        due(what, got.digest(), want.digest());
+    }
+
+    /** The two calls answer the same, or throw the same. */
+    void same(String what, Call ours, Call due) {
+        Object got = outcome(ours);
+        Object want = outcome(due);
+        count(what, got.equals(want), got, want);
     }
 
     void isTrue(String what, boolean is) {
@@ -27,11 +68,7 @@ final class Checks {
     void thrown(String what, FreshDisks x, Class<?> want, Call call) {
         long before = x.digest();
         Object got = outcome(call);
-        made++;
-        if (got != want) {
-            wrong++;
-            System.out.println(what + " answered " + got + ", due is " + want);
-        }
+        count(what, got == want, got, want);
         due(what + " leaves the digest", x.digest(), before);
     }
 
