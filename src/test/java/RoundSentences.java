@@ -219,6 +219,8 @@ final class RoundSentences extends Starts {
         c.due("without node 0", x.roundValue(2, 0), -1);
         x.prepare(2, 5);
         c.due("with node 0", x.roundValue(2, 0), 7);
+        x.prepare(0, 6);
+        c.due("node 0 itself without its own", x.roundValue(0, 0), -1);
     }
 
     @Says(in = D, text = "of several that of the lowest node (NONE if all of these ballots are 0).")

@@ -37,8 +37,7 @@ public final class SentenceTest {
         "Returns how few nodes must lose all of their waiting writes so that a slot is not protected any more.",
         "Returns the share of messages that were not refused.", "Returns how much of the decided slots is on the disks.",
         "Computes a hash of the whole state.", "Returns the hash.", "- `node`: number of the node",
-        "- `slot`: number of the slot", "- `code`: the character code",
-        "- `reached`: the set of the nodes that are reached, as for prepare");
+        "- `slot`: number of the slot", "- `code`: the character code");
 
     private final Checks checks = new Checks();
     private final Map<String, List<String>> document = new LinkedHashMap<>();
