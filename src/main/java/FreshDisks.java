@@ -148,19 +148,19 @@ public final class FreshDisks {
     }
 
     public int firstError() {
-        return readInput();
+        return readUpToError();
     }
 
     public int load() throws IllegalArgumentException {
-        if (readInput() < inputLength || !reader.isComplete()) {
+        if (readUpToError() < inputLength || !reader.isComplete()) {
             throw new IllegalArgumentException("the buffer is not a complete text");
         }
         int carriedOut = 0;
         reader.reset();
         for (int i = 0; i < inputLength; i++) {
-            reader.take(input[i], nodeCount, slotCount);
+            reader.takes(input[i], nodeCount, slotCount);
             if (i + 1 == inputLength || input[i + 1] == ';') {
-                carriedOut += asNumber(carryOutEvent());
+                carriedOut += asNumber(carriesOutEvent());
             }
         }
         inputLength = 0;
@@ -315,14 +315,22 @@ public final class FreshDisks {
 
     // ---- what the calls ask for before they change anything
 
+    private boolean isNode(int node) {
+        return node >= 0 && node < nodeCount;
+    }
+
+    private boolean isSlot(int slot) {
+        return slot >= 0 && slot < slotCount;
+    }
+
     private void requireNode(int node) {
-        if (node < 0 || node >= nodeCount) {
+        if (!isNode(node)) {
             throw new IndexOutOfBoundsException("the node does not exist");
         }
     }
 
     private void requireSlot(int slot) {
-        if (slot < 0 || slot >= slotCount) {
+        if (!isSlot(slot)) {
             throw new IndexOutOfBoundsException("the slot does not exist");
         }
     }
@@ -424,7 +432,7 @@ public final class FreshDisks {
         return acceptances;
     }
 
-    /** Lets a node answer a message, that of prepare if the slot is NONE; tells if it does not refuse. */
+    // Both messages are answered alike but for the write; as among writes, NONE is the slot of a promise.
     private boolean agrees(Node receiver, Node sender, int slot, int ballot, int value) {
         int promised = receiver.view.promised;
         // What was promised can be accepted, but not promised once more.
@@ -469,23 +477,21 @@ public final class FreshDisks {
 
     // ---- input
 
-    /** Reads up to the first syntax error; answers its index, or the length. */
-    private int readInput() {
+    private int readUpToError() {
         reader.reset();
         for (int i = 0; i < inputLength; i++) {
-            if (!reader.take(input[i], nodeCount, slotCount)) {
+            if (!reader.takes(input[i], nodeCount, slotCount)) {
                 return i;
             }
         }
         return inputLength;
     }
 
-    /** Carries out the event that was read, or leaves it out; answers which. */
-    private boolean carryOutEvent() {
-        Node node = nodes[reader.node];
-        if (!isPossible(node)) {
+    private boolean carriesOutEvent() {
+        if (!isNode(reader.node) || !isPossible(nodes[reader.node])) {
             return false;
         }
+        Node node = nodes[reader.node];
         switch (reader.letter) {
             case 'p': sendPrepare(node, reader.reached); break;
             case 'a': sendAccept(node, reader.slot, reader.value, reader.reached); break;
@@ -498,10 +504,11 @@ public final class FreshDisks {
         return true;
     }
 
+    // An event has to be left out where its call would throw.
     private boolean isPossible(Node node) {
         switch (reader.letter) {
             case 'p': return node.takesPart();
-            case 'a': return node.hasRound();
+            case 'a': return isSlot(reader.slot) && node.hasRound();
             case 'f':
             case 'c': return node.up;
             case 'w':
@@ -607,7 +614,7 @@ public final class FreshDisks {
         return 0;
     }
 
-    /** The set of the slots that are protected, but would not be if this node did not hold them. */
+    // Losses of one node do harm alone to the slots that are protected only as long as it holds them.
     private int slotsThatNeed(Node node) {
         int needed = 0;
         for (int i = 0; i < slotCount; i++) {
@@ -726,9 +733,9 @@ public final class FreshDisks {
             System.arraycopy(other.values, 0, values, 0, MOST_SLOTS);
         }
 
-        /** Carries out a write; the slot is NONE for a promise. */
         void carryOut(int slot, int ballot, int value) {
             promised = ballot;
+            // A promise has NONE for its slot.
             if (slot >= 0 && slot < MOST_SLOTS) {
                 ballots[slot] = ballot;
                 values[slot] = value;
@@ -960,37 +967,36 @@ public final class FreshDisks {
             return place == AT_END || place == AT_NEXT_REACHED;
         }
 
-        /** Takes a character if it is allowed at its place; answers whether it is. */
-        boolean take(int code, int nodeCount, int slotCount) {
+        boolean takes(int code, int nodeCount, int slotCount) {
             switch (place) {
                 case AT_LETTER:
-                    return takeLetter(code);
+                    return takesLetter(code);
                 case AT_NODE:
                     node = digit(code, nodeCount);
-                    return goOn(node != NONE, placeBehindNode());
+                    return goesOn(node != NONE, placeBehindNode());
                 case AT_SLOT_SIGN:
-                    return goOn(code == 's', AT_SLOT);
+                    return goesOn(code == 's', AT_SLOT);
                 case AT_SLOT:
                     slot = digit(code, slotCount);
-                    return goOn(slot != NONE, AT_VALUE_SIGN);
+                    return goesOn(slot != NONE, AT_VALUE_SIGN);
                 case AT_VALUE_SIGN:
-                    return goOn(code == '=', AT_VALUE);
+                    return goesOn(code == '=', AT_VALUE);
                 case AT_VALUE:
                     value = digit(code, DIGITS);
-                    return goOn(value != NONE, AT_REACHED_SIGN);
+                    return goesOn(value != NONE, AT_REACHED_SIGN);
                 case AT_REACHED_SIGN:
-                    return goOn(code == '>', AT_FIRST_REACHED);
+                    return goesOn(code == '>', AT_FIRST_REACHED);
                 case AT_FIRST_REACHED:
-                    return takeReached(digit(code, nodeCount));
+                    return takesReached(digit(code, nodeCount));
                 case AT_NEXT_REACHED:
-                    return goOn(code == ';', AT_LETTER) || takeReached(digit(code, nodeCount));
+                    return goesOn(code == ';', AT_LETTER) || takesReached(digit(code, nodeCount));
                 case AT_LOST_SIGN:
-                    return goOn(code == '-', AT_LOST);
+                    return goesOn(code == '-', AT_LOST);
                 case AT_LOST:
                     lost = digit(code, DIGITS);
-                    return goOn(lost != NONE, AT_END);
+                    return goesOn(lost != NONE, AT_END);
                 default:
-                    return goOn(code == ';', AT_LETTER);
+                    return goesOn(code == ';', AT_LETTER);
             }
         }
 
@@ -999,17 +1005,17 @@ public final class FreshDisks {
             return number >= 0 && number < bound ? number : NONE;
         }
 
-        private boolean goOn(boolean allowed, int next) {
+        private boolean goesOn(boolean allowed, int next) {
             if (allowed) {
                 place = next;
             }
             return allowed;
         }
 
-        private boolean takeLetter(int code) {
+        private boolean takesLetter(int code) {
             letter = code;
             reached = 0;
-            return goOn(isLetter(code), AT_NODE);
+            return goesOn(isLetter(code), AT_NODE);
         }
 
         private static boolean isLetter(int code) {
@@ -1036,7 +1042,7 @@ public final class FreshDisks {
         }
 
         // A set whose numbers are all less than this one has no bit at its place or above.
-        private boolean takeReached(int number) {
+        private boolean takesReached(int number) {
             if (number == NONE || reached >> number != 0) {
                 return false;
             }

@@ -6,55 +6,41 @@ import java.lang.reflect.Modifier;
 import java.nio.charset.StandardCharsets;
 import java.nio.file.Files;
 import java.nio.file.Path;
-import java.util.Arrays;
 import java.util.Set;
 import java.util.TreeSet;
+import java.util.regex.Matcher;
 import java.util.regex.Pattern;
 
 /** The public face of the document, and the rules of LANGUAGE.md that can be seen from outside. */
 public final class FaceTest {
-    private static final String INDEX = "IndexOutOfBoundsException";
-    private static final String ARGUMENT = "IllegalArgumentException";
-    private static final String STATE = "IllegalStateException";
-    private static final String[] FACE = {
-        "int begin(int, int) " + ARGUMENT,
-        "int setBarriers(boolean)",
-        "int prepare(int, int) " + INDEX + " " + ARGUMENT + " " + STATE,
-        "int accept(int, int, int, int) " + INDEX + " " + ARGUMENT + " " + STATE,
-        "int barrier(int) " + INDEX + " " + STATE,
-        "int crash(int, int) " + INDEX + " " + ARGUMENT + " " + STATE,
-        "int wipe(int) " + INDEX + " " + STATE,
-        "int restart(int) " + INDEX + " " + STATE,
-        "int rejoin(int, int) " + INDEX + " " + ARGUMENT + " " + STATE,
-        "int append(int) " + ARGUMENT + " " + STATE,
-        "int clearInput()",
-        "int firstError()",
-        "int load() " + ARGUMENT,
-        "int count(int) " + ARGUMENT,
-        "int node(int, int) " + INDEX + " " + ARGUMENT,
-        "int accepted(int, int, int) " + INDEX + " " + ARGUMENT,
-        "int waiting(int, int, int) " + INDEX + " " + ARGUMENT,
-        "int slot(int, int) " + INDEX + " " + ARGUMENT,
-        "int roundValue(int, int) " + INDEX + " " + STATE,
-        "int ifCrashed(int, int, int) " + INDEX + " " + ARGUMENT,
-        "int harmless(int) " + INDEX,
-        "int leastLosses(int) " + INDEX + " " + STATE,
-        "int answered()",
-        "double onDisks()",
-        "long digest()",
-    };
     private static final String[] RULED_OUT = {
         "\\bcatch\\b", "\\bfinally\\b", "\\bsynchronized\\b", "\\bassert\\b", "->", "::", "\\bvar\\b", "Exact\\b",
         "\\bFloat\\b", "\\bDouble\\b", "\\bSystem\\.(?!arraycopy)", "\\bRandom\\b", "\\bThread\\b", "\\bpackage\\b",
         "\\bhashCode\\b", "\\btoString\\b", "\\bObject\\b", "import (?!java\\.util\\.Arrays;)", "static \\{",
     };
+    private static final Path DOCUMENT = Path.of("../shared/DOC.md");
     private static final Checks CHECKS = new Checks();
+    /** The methods as the document writes them, each with the types of its parameters and what it throws. */
+    private static final Set<String> FACE = new TreeSet<>();
 
     public static void main(String[] args) throws IOException {
+        readFace();
         face();
         members();
         source();
         CHECKS.end();
+    }
+
+    private static void readFace() throws IOException {
+        Pattern method = Pattern.compile("    public (\\w+ \\w+)\\((.*)\\)(?: throws (.*))?;");
+        for (String line : Files.readAllLines(DOCUMENT)) {
+            Matcher m = method.matcher(line);
+            if (m.matches()) {
+                String types = m.group(2).replaceAll("(\\w+) \\w+", "$1");
+                FACE.add(m.group(1) + "(" + types + ")" + (m.group(3) == null ? "" : " " + m.group(3).replace(",", "")));
+            }
+        }
+        CHECKS.due("methods of the document", FACE.size(), 25);
     }
 
     private static String signature(Method m) {
@@ -79,8 +65,8 @@ public final class FaceTest {
                 CHECKS.due(m + " is public alone", m.getModifiers(), Modifier.PUBLIC);
             }
         }
-        Set<String> due = new TreeSet<>(Arrays.asList(FACE));
-        CHECKS.isTrue("the methods are " + due + ", found are " + found, found.equals(due));
+        CHECKS.isTrue("the methods are " + FACE + ", found are " + found, found.equals(FACE));
+        CHECKS.due("NONE", FreshDisks.NONE, -1);
         Constructor<?>[] constructors = FreshDisks.class.getDeclaredConstructors();
         CHECKS.isTrue("one public constructor", constructors.length == 1 && constructors[0].getParameterCount() == 0
             && Modifier.isPublic(constructors[0].getModifiers()));
